@@ -336,8 +336,8 @@ public final class SprintBoard {
             return false;
         }
         board.closeInto(closure);
-        for (int story = 0; story < board.stories; story++) {
-            if (!agreesWithClosure(story) || daysOnTrial(story) != daysNeeded(board, story, 0)) {
+        for (int story = 0; story < closure.length && board.hasStory(story); story++) {
+            if (!agreesWithClosure(story, closure[story]) || daysOnTrial(story) != daysNeeded(board, story, 0)) {
                 return false;
             }
         }
@@ -442,9 +442,9 @@ public final class SprintBoard {
         return 1 << story;
     }
 
-    private boolean agreesWithClosure(int story) {
+    private boolean agreesWithClosure(int story, int closed) {
         for (int other = 0; other < board.stories; other++) {
-            if (board.finds(story, other) != holds(closure[story], other)) {
+            if (board.finds(story, other) != holds(closed, other)) {
                 return false;
             }
         }
@@ -467,7 +467,7 @@ public final class SprintBoard {
             return 0;
         }
         int speed = board.speedOn(story);
-        if (speed < 1 || depth >= MOST_STORIES) {
+        if (!board.hasStory(story) || speed < 1 || depth >= MOST_STORIES) {
             return NONE;
         }
         int wait = 0;
@@ -484,7 +484,7 @@ public final class SprintBoard {
     }
 
     private int carryOutCommands() {
-        for (int index = 0; index < text.commands; index++) {
+        for (int index = 0; index < text.commands && index < MOST_TYPED; index++) {
             int kind = text.kinds[index];
             int first = text.firsts[index];
             int second = text.seconds[index];
@@ -929,7 +929,7 @@ public final class SprintBoard {
         }
 
         boolean hasDay(int day) {
-            return active && day >= 0 && day <= sprintLength;
+            return active && sprintLength > 0 && day >= 0 && day <= sprintLength;
         }
 
         boolean hasEnded(int sprint) {

@@ -103,6 +103,8 @@ public final class PromiseTest {
         promise52KeepsTextAndLine();
         promise53();
         promise54();
+        promise54TheSprint();
+        promise54TheVelocities();
     }
 
     private static void promise1() {
@@ -348,6 +350,13 @@ public final class PromiseTest {
         for (int story : new int[] {-1, 4, 16, Integer.MIN_VALUE, Integer.MAX_VALUE}) {
             fails("16 story " + story, INDEX, () -> x.longestChain(story));
         }
+        SprintBoard wide = board(1, 1, 1, 1);
+        wide.block(0, 1);
+        wide.block(0, 2);
+        wide.block(1, 3);
+        is("16 through the lower of two", 3, wide.longestChain(0));
+        is("14 through the lower of two", true, wide.dependsOn(0, 3));
+        is("15 through the lower of two", true, wide.dependsOnByClosure(0, 3));
         SprintBoard full = full();
         for (int story = 0; story < 15; story++) {
             full.block(story, story + 1);
@@ -1206,6 +1215,37 @@ public final class PromiseTest {
         is("54 days again", 1, x.daysPassed());
     }
 
+    private static void promise54TheSprint() {
+        SprintBoard x = working(8, 3);
+        x.passDay();
+        x.save();
+        x.endSprint();
+        x.addStory(13);
+        x.plan(1);
+        x.startSprint(2);
+        x.passDay();
+        x.restore();
+        is("54 burn-down of the start", 8, x.burnDown(0));
+        is("54 burn-down of the day", 5, x.burnDown(1));
+        is("54 length", 0f, x.idealBurnDown(10));
+        is("54 scope of the start", 0, x.scopeChange());
+        fails("54 longer than the length", FOUND, () -> x.idealBurnDown(11));
+    }
+
+    private static void promise54TheVelocities() {
+        SprintBoard x = board(5, 3);
+        finish(x, 0);
+        x.save();
+        x.undo();
+        x.plan(1);
+        x.unplan(0);
+        x.endSprint();
+        is("54 another velocity", 0, x.velocityOf(0));
+        x.restore();
+        is("54 velocity", 5, x.velocityOf(0));
+        is("54 mean velocity", 5.0, x.meanVelocity());
+    }
+
     private static SprintBoard board(int... estimates) {
         SprintBoard x = new SprintBoard();
         for (int points : estimates) {
@@ -1273,8 +1313,10 @@ public final class PromiseTest {
     }
 
     private static void undoes(String name, SprintBoard x, Call change, Call seen, Object due) {
+        x.save();
+        x.restore();
         change.answer();
-        x.undo();
+        is("52 just " + name, 0, x.undo());
         if (due == null) {
             fails("52 " + name, STATE, seen);
         } else {
