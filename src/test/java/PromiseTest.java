@@ -1,20 +1,5 @@
-import java.util.NoSuchElementException;
-
 /** For each promise of the document: ordinary inputs, the edges that it names, and wrong inputs. */
-public final class PromiseTest {
-    private static final Class<? extends RuntimeException> INDEX = IndexOutOfBoundsException.class;
-    private static final Class<? extends RuntimeException> ARGUMENT = IllegalArgumentException.class;
-    private static final Class<? extends RuntimeException> STATE = IllegalStateException.class;
-    private static final Class<? extends RuntimeException> SUPPORT = UnsupportedOperationException.class;
-    private static final Class<? extends RuntimeException> FOUND = NoSuchElementException.class;
-    private static final Class<? extends RuntimeException> ARITHMETIC = ArithmeticException.class;
-
-    private static final Checks checks = new Checks();
-
-    private interface Call {
-        Object answer();
-    }
-
+public final class PromiseTest extends Boards {
     private PromiseTest() {
     }
 
@@ -1246,49 +1231,6 @@ public final class PromiseTest {
         is("54 mean velocity", 5.0, x.meanVelocity());
     }
 
-    private static SprintBoard board(int... estimates) {
-        SprintBoard x = new SprintBoard();
-        for (int points : estimates) {
-            x.addStory(points);
-        }
-        return x;
-    }
-
-    private static SprintBoard full() {
-        SprintBoard x = new SprintBoard();
-        for (int story = 0; story < 16; story++) {
-            x.addStory(1);
-        }
-        return x;
-    }
-
-    /** A board in whose sprint of 10 days its only developer works on its only story. */
-    private static SprintBoard working(int points, int speed) {
-        SprintBoard x = board(points);
-        x.addDeveloper(speed);
-        x.plan(0);
-        x.startSprint(10);
-        x.assign(0, 0);
-        return x;
-    }
-
-    /** Lets a story of at most 40 points be done in a sprint of its own, with developer 0. */
-    private static void finish(SprintBoard x, int story) {
-        if (x.isActive()) {
-            x.endSprint();
-        }
-        if (x.developerCount() == 0) {
-            x.addDeveloper(4);
-        }
-        x.plan(story);
-        x.startSprint(10);
-        x.assign(story, 0);
-        for (int day = 0; day < 10 && !x.isDone(story); day++) {
-            x.passDay();
-        }
-        x.endSprint();
-    }
-
     private static int openAndDone(SprintBoard x, int story) {
         int blockers = 0;
         for (int blocker = 0; blocker < x.storyCount(); blocker++) {
@@ -1324,32 +1266,11 @@ public final class PromiseTest {
         }
     }
 
-    private static int run(SprintBoard x, String text) {
-        for (int index = 0; index < text.length(); index++) {
-            x.type(text.charAt(index));
-        }
-        return x.execute();
-    }
-
     private static String lineOf(SprintBoard x, int length) {
         StringBuilder line = new StringBuilder();
         for (int index = 0; index < length; index++) {
             line.append(x.lineAt(index));
         }
         return line.toString();
-    }
-
-    private static void is(String what, Object due, Object answer) {
-        checks.same(what, due, answer);
-    }
-
-    private static void fails(String what, Class<? extends RuntimeException> due, Call call) {
-        Object answer;
-        try {
-            answer = call.answer();
-        } catch (RuntimeException thrown) {
-            answer = thrown.getClass();
-        }
-        checks.same(what, due, answer);
     }
 }
